@@ -178,7 +178,7 @@ public final class SharedFault {
             case 1:
                 return has(brokeSet, w) ? 1 : 0;
             case 2:
-                return isPaired(w) ? Integer.numberOfTrailingZeros(units[w] & ~bit(w)) : NONE;
+                return firstOf(units[w] & ~bit(w));
             case 3:
                 return has(settledSet, w) ? 1 : 0;
             case 4:
@@ -393,6 +393,15 @@ public final class SharedFault {
 
     private static boolean has(int set, int w) {
         return (set >> w & 1) != 0;
+    }
+
+    private static int firstOf(int set) {
+        for (int w = 0; w < WRONGDOERS; w++) {
+            if (has(set, w)) {
+                return w;
+            }
+        }
+        return NONE;
     }
 
     private static int sumOver(int set, int[] row) {

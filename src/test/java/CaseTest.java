@@ -1,7 +1,6 @@
 /** Promises 1 to 13: the case. */
 public final class CaseTest {
     private static final Check CHECK = new Check("CaseTest");
-    private static final int[] STRANGE = {Integer.MIN_VALUE, -9, -1, 6, 7, 31, 32, 33, 64, Integer.MAX_VALUE};
 
     public static void main(String[] args) {
         newObject();
@@ -105,7 +104,7 @@ public final class CaseTest {
 
     private static void leave() {
         SharedFault x = with(10, 20, 30);
-        for (int w : STRANGE) {
+        for (int w : Cases.STRANGE) {
             is("5 leave " + w, x.leave(w), -1);
         }
         is("5 leave 3", x.leave(3), -1);
@@ -136,7 +135,7 @@ public final class CaseTest {
 
     private static void weight() {
         SharedFault x = with(10, 20);
-        for (int w : STRANGE) {
+        for (int w : Cases.STRANGE) {
             is("6 weight of " + w, x.weight(w, 101), -1);
         }
         is("6 unknown comes before outside", x.weight(2, -1), -1);
@@ -153,7 +152,7 @@ public final class CaseTest {
 
     private static void broke() {
         SharedFault x = with(10, 20);
-        for (int w : STRANGE) {
+        for (int w : Cases.STRANGE) {
             is("7 broke " + w, x.broke(w, true), -1);
         }
         is("7 was not", x.broke(0, false), 0);
@@ -168,7 +167,7 @@ public final class CaseTest {
 
     private static void pair() {
         SharedFault x = with(1, 2, 3, 4, 5, 6);
-        for (int w : STRANGE) {
+        for (int w : Cases.STRANGE) {
             is("8 pair 0 with " + w, x.pair(0, w), -1);
             is("8 pair " + w + " with 0", x.pair(w, 0), -1);
         }
@@ -196,7 +195,7 @@ public final class CaseTest {
 
     private static void part() {
         SharedFault x = with(1, 2, 3);
-        for (int w : STRANGE) {
+        for (int w : Cases.STRANGE) {
             is("9 part " + w, x.part(w), -1);
         }
         is("9 in none", x.part(0), -3);
@@ -217,7 +216,7 @@ public final class CaseTest {
     private static void settle() {
         SharedFault x = with(10, 20, 30, 40);
         x.loss(1000);
-        for (int w : STRANGE) {
+        for (int w : Cases.STRANGE) {
             is("10 settle " + w, x.settle(w, -1), -1);
         }
         is("10 less than least", x.settle(0, -1), -2);
@@ -244,7 +243,7 @@ public final class CaseTest {
 
     private static void reopen() {
         SharedFault x = with(10, 20, 30);
-        for (int w : STRANGE) {
+        for (int w : Cases.STRANGE) {
             is("11 reopen " + w, x.reopen(w), -1);
         }
         is("11 open", x.reopen(0), -3);
@@ -275,7 +274,7 @@ public final class CaseTest {
             is("12 each its own " + k, x.setting(k, 2), 1);
         }
         is("12 no setting 3", x.setting(3, 0), -2);
-        for (int k : STRANGE) {
+        for (int k : Cases.STRANGE) {
             is("12 no setting " + k, x.setting(k, 0), -2);
         }
     }
@@ -283,7 +282,7 @@ public final class CaseTest {
     private static void ofWrong() {
         SharedFault x = with(10, 20, 30);
         x.loss(1000);
-        for (int w : STRANGE) {
+        for (int w : Cases.STRANGE) {
             is("13 of " + w, x.ofWrong(w, 0), -1);
             is("13 unknown comes before outside", x.ofWrong(w, 6), -1);
         }

@@ -5,7 +5,8 @@ public final class ModelTest {
     private static final Check CHECK = new Check("ModelTest");
     private static final int RUNS = 600;
     private static final int CALLS = 512;
-    private static final int[] STRANGE = {Integer.MIN_VALUE, -1000001, -2, -1, 6, 7, 32, 101, 1000001, Integer.MAX_VALUE};
+    private static final int[] STRANGE = {
+        Integer.MIN_VALUE, -1000001, -2, -1, 0, 2, 3, 5, 6, 7, 32, 101, 1000001, Integer.MAX_VALUE};
 
     private final Random random;
     private final SharedFault x = new SharedFault();
@@ -58,6 +59,13 @@ public final class ModelTest {
         return 1 + random.nextInt(now(50) ? 100 : 150000);
     }
 
+    /** Often just what is still due in all, or 1 more. */
+    private int payment() {
+        if (now(70)) return smallMoney();
+        long due = model.amount(4, 0) / model.amount(4, 1) - model.many(5);
+        return (int) due + random.nextInt(2);
+    }
+
     private int bar() {
         return now(70) ? 100 : random.nextInt(102);
     }
@@ -100,7 +108,7 @@ public final class ModelTest {
                 break;
             }
             case 18: case 19: case 20: {
-                int v = smallMoney();
+                int v = payment();
                 same("pay " + w + " " + v, x.pay(w, v), model.pay(w, v));
                 break;
             }

@@ -1,9 +1,6 @@
 /** Promises 14 to 22: what is owed. */
 public final class OwedTest {
     private static final Check CHECK = new Check("OwedTest");
-    private static final long LOST = Long.MIN_VALUE;
-    private static final int[] STRANGE = {Integer.MIN_VALUE, -9, -1, 6, 7, 31, 32, 33, 64, Integer.MAX_VALUE};
-    private static final int[] NO_WHICH = {Integer.MIN_VALUE, -1, 2, Integer.MAX_VALUE};
 
     public static void main(String[] args) {
         amountEntitled();
@@ -26,22 +23,12 @@ public final class OwedTest {
         CHECK.is(call, got, want);
     }
 
-    private static SharedFault with(int loss, int claimant, int... weights) {
-        SharedFault x = new SharedFault();
-        x.loss(loss);
-        x.claimant(claimant);
-        for (int weight : weights) {
-            x.wrong(weight);
-        }
-        return x;
-    }
-
     private static void amount(SharedFault x, int what, long up, long down) {
         CHECK.share("14 amount " + what, x.amount(what, 0), x.amount(what, 1), up, down);
     }
 
     private static void amountEntitled() {
-        SharedFault x = with(1000, 30, 40);
+        SharedFault x = Cases.with(1000, 30, 40);
         amount(x, 0, 4000, 7);
         x.setting(2, 42);
         amount(x, 0, 0, 1);
@@ -64,10 +51,16 @@ public final class OwedTest {
         x.claimant(0);
         amount(x, 0, 0, 1);
         is("14 no blame", x.many(4), 0);
+        x.claimant(100);
+        x.weight(0, 1);
+        x.setting(2, 99);
+        amount(x, 0, 0, 1);
+        x.setting(2, 100);
+        amount(x, 0, 1000, 101);
     }
 
     private static void amountCredits() {
-        SharedFault x = with(1000, 10, 20, 30, 40);
+        SharedFault x = Cases.with(1000, 10, 20, 30, 40);
         x.settle(0, 150);
         x.settle(1, 350);
         long[][] credits = {{500, 1}, {500, 1}, {550, 1}};
@@ -96,7 +89,7 @@ public final class OwedTest {
     }
 
     private static void amountMissed() {
-        SharedFault x = with(1200, 10, 10, 20, 20);
+        SharedFault x = Cases.with(1200, 10, 10, 20, 20);
         x.broke(2, true);
         amount(x, 2, 1000, 1);
         amount(x, 3, 0, 1);
@@ -119,7 +112,7 @@ public final class OwedTest {
             x.setting(1, spread);
             amount(x, 3, 1200, 1);
         }
-        SharedFault left = with(90, 0, 10, 0);
+        SharedFault left = Cases.with(90, 0, 10, 0);
         left.settle(0, 40);
         amount(left, 2, 50, 1);
         amount(left, 3, 50, 1);
@@ -129,16 +122,16 @@ public final class OwedTest {
     }
 
     private static void amountRefused() {
-        SharedFault x = with(1000, 0, 10);
-        for (int which : NO_WHICH) {
+        SharedFault x = Cases.with(1000, 0, 10);
+        for (int which : Cases.NO_WHICH) {
             for (int what = 0; what < 5; what++) {
-                is("14 which " + which, x.amount(what, which), LOST);
+                is("14 which " + which, x.amount(what, which), Cases.LOST);
             }
         }
-        is("14 what -1", x.amount(-1, 0), LOST);
-        is("14 what 5", x.amount(5, 1), LOST);
-        is("14 what least", x.amount(Integer.MIN_VALUE, 0), LOST);
-        is("LOST", SharedFault.LOST, LOST);
+        is("14 what -1", x.amount(-1, 0), Cases.LOST);
+        is("14 what 5", x.amount(5, 1), Cases.LOST);
+        is("14 what least", x.amount(Integer.MIN_VALUE, 0), Cases.LOST);
+        is("LOST", SharedFault.LOST, Cases.LOST);
     }
 
     private static void creditOf(SharedFault x, int w, long up, long down) {
@@ -146,7 +139,7 @@ public final class OwedTest {
     }
 
     private static void credit() {
-        SharedFault x = with(1000, 10, 20, 30, 10);
+        SharedFault x = Cases.with(1000, 10, 20, 30, 10);
         creditOf(x, 0, 0, 1);
         x.pair(0, 1);
         x.settle(1, 700);
@@ -170,12 +163,12 @@ public final class OwedTest {
         creditOf(x, 0, 0, 1);
         x.setting(0, 0);
         creditOf(x, 0, 715, 1);
-        for (int w : STRANGE) {
-            is("15 credit " + w, x.credit(w, 0), LOST);
+        for (int w : Cases.STRANGE) {
+            is("15 credit " + w, x.credit(w, 0), Cases.LOST);
         }
-        is("15 credit 3", x.credit(3, 0), LOST);
-        for (int which : NO_WHICH) {
-            is("15 which " + which, x.credit(0, which), LOST);
+        is("15 credit 3", x.credit(3, 0), Cases.LOST);
+        for (int which : Cases.NO_WHICH) {
+            is("15 which " + which, x.credit(0, which), Cases.LOST);
         }
     }
 
@@ -184,7 +177,7 @@ public final class OwedTest {
     }
 
     private static void unitDue() {
-        SharedFault x = with(1200, 10, 10, 20, 20);
+        SharedFault x = Cases.with(1200, 10, 10, 20, 20);
         x.pair(0, 1);
         unitDueOf(x, 0, 600, 1);
         unitDueOf(x, 1, 600, 1);
@@ -202,12 +195,12 @@ public final class OwedTest {
         x.settle(0, 500);
         unitDueOf(x, 0, 0, 1);
         unitDueOf(x, 2, 500, 1);
-        for (int w : STRANGE) {
-            is("16 unitDue " + w, x.unitDue(w, 0), LOST);
+        for (int w : Cases.STRANGE) {
+            is("16 unitDue " + w, x.unitDue(w, 0), Cases.LOST);
         }
-        is("16 unitDue 3", x.unitDue(3, 1), LOST);
-        for (int which : NO_WHICH) {
-            is("16 which " + which, x.unitDue(0, which), LOST);
+        is("16 unitDue 3", x.unitDue(3, 1), Cases.LOST);
+        for (int which : Cases.NO_WHICH) {
+            is("16 which " + which, x.unitDue(0, which), Cases.LOST);
         }
     }
 
@@ -216,7 +209,7 @@ public final class OwedTest {
     }
 
     private static void due() {
-        SharedFault x = with(100, 1, 1, 2, 3);
+        SharedFault x = Cases.with(100, 1, 1, 2, 3);
         dueOf(x, 2, 300, 7);
         x.pair(0, 1);
         dueOf(x, 0, 100, 7);
@@ -244,12 +237,12 @@ public final class OwedTest {
         dueOf(x, 0, 0, 1);
         x.settle(0, 1);
         dueOf(x, 1, 0, 1);
-        for (int w : STRANGE) {
-            is("17 due " + w, x.due(w, 0), LOST);
+        for (int w : Cases.STRANGE) {
+            is("17 due " + w, x.due(w, 0), Cases.LOST);
         }
-        is("17 due 3", x.due(3, 1), LOST);
-        for (int which : NO_WHICH) {
-            is("17 which " + which, x.due(0, which), LOST);
+        is("17 due 3", x.due(3, 1), Cases.LOST);
+        for (int which : Cases.NO_WHICH) {
+            is("17 which " + which, x.due(0, which), Cases.LOST);
         }
     }
 
@@ -258,7 +251,7 @@ public final class OwedTest {
     }
 
     private static void gets() {
-        SharedFault x = with(1200, 20, 20, 10, 10);
+        SharedFault x = Cases.with(1200, 20, 20, 10, 10);
         getsBy(x, 0, 0, 800, 1);
         x.settle(0, 500);
         x.broke(1, true);
@@ -279,16 +272,16 @@ public final class OwedTest {
         x.settle(1, 300);
         getsBy(x, 0, 0, 800, 1);
         getsBy(x, 1, 0, 500, 1);
-        for (int wrong : NO_WHICH) {
+        for (int wrong : Cases.NO_WHICH) {
             int other = wrong == 2 ? 3 : wrong;
-            is("18 manner " + other, x.gets(other, 0, 0), LOST);
-            is("18 spread " + other, x.gets(0, other, 0), LOST);
-            is("18 which " + wrong, x.gets(0, 0, wrong), LOST);
+            is("18 manner " + other, x.gets(other, 0, 0), Cases.LOST);
+            is("18 spread " + other, x.gets(0, other, 0), Cases.LOST);
+            is("18 which " + wrong, x.gets(0, 0, wrong), Cases.LOST);
         }
     }
 
     private static void bestManner() {
-        SharedFault x = with(1200, 20, 20, 10, 10);
+        SharedFault x = Cases.with(1200, 20, 20, 10, 10);
         is("19 all alike", x.bestManner(), 0);
         x.settle(0, 500);
         is("19 settled for more than its part", x.bestManner(), 1);
@@ -309,6 +302,18 @@ public final class OwedTest {
         x.broke(2, false);
         x.setting(1, 2);
         is("19 by the spread as it is", x.bestManner(), 1);
+        x.reopen(0);
+        x.settle(0, 300);
+        is("19 for all manners by that spread", x.bestManner(), 0);
+        is("19 the spread stays", x.setting(1, 2), 2);
+        x.broke(2, true);
+        for (int spread = 0; spread < 3; spread++) {
+            x.setting(1, spread);
+            is("19 nobody owes by spread " + spread, x.bestManner(), 0);
+        }
+        SharedFault little = Cases.with(2, 0, 1, 1);
+        little.settle(0, 2);
+        is("19 by 1 more", little.bestManner(), 1);
     }
 
     private static void savesOf(SharedFault x, int w, int v, long up, long down) {
@@ -316,7 +321,7 @@ public final class OwedTest {
     }
 
     private static void saves() {
-        SharedFault x = with(1200, 20, 20, 10, 20);
+        SharedFault x = Cases.with(1200, 20, 20, 10, 20);
         savesOf(x, 0, 0, 2400, 7);
         savesOf(x, 0, 1000000, 2400 - 7000000, 7);
         x.pair(0, 1);
@@ -336,17 +341,17 @@ public final class OwedTest {
         savesOf(x, 0, 0, 6000, 7);
         x.broke(0, true);
         savesOf(x, 0, 1, -1, 1);
-        SharedFault paid = with(100, 0, 10);
+        SharedFault paid = Cases.with(100, 0, 10);
         paid.pay(0, 60);
         savesOf(paid, 0, 30, 70, 1);
-        for (int w : STRANGE) {
-            is("20 saves " + w, x.saves(w, 0, 0), LOST);
+        for (int w : Cases.STRANGE) {
+            is("20 saves " + w, x.saves(w, 0, 0), Cases.LOST);
         }
-        is("20 saves 3", x.saves(3, 0, 0), LOST);
-        is("20 v -1", x.saves(0, -1, 0), LOST);
-        is("20 v 1000001", x.saves(0, 1000001, 0), LOST);
-        for (int which : NO_WHICH) {
-            is("20 which " + which, x.saves(0, 0, which), LOST);
+        is("20 saves 3", x.saves(3, 0, 0), Cases.LOST);
+        is("20 v -1", x.saves(0, -1, 0), Cases.LOST);
+        is("20 v 1000001", x.saves(0, 1000001, 0), Cases.LOST);
+        for (int which : Cases.NO_WHICH) {
+            is("20 which " + which, x.saves(0, 0, which), Cases.LOST);
         }
     }
 
@@ -355,7 +360,7 @@ public final class OwedTest {
     }
 
     private static void misses() {
-        SharedFault x = with(1200, 10, 10, 20, 20);
+        SharedFault x = Cases.with(1200, 10, 10, 20, 20);
         missesOf(x, 2, 0, 1);
         x.setting(1, 2);
         missesOf(x, 2, 400, 1);
@@ -373,20 +378,20 @@ public final class OwedTest {
         x.settle(0, 100);
         missesOf(x, 0, 0, 1);
         missesOf(x, 2, 900, 1);
-        SharedFault odd = with(1000, 7, 11, 13);
+        SharedFault odd = Cases.with(1000, 7, 11, 13);
         odd.setting(1, 1);
         missesOf(odd, 0, 3850, 31);
-        for (int w : STRANGE) {
-            is("21 misses " + w, x.misses(w, 0), LOST);
+        for (int w : Cases.STRANGE) {
+            is("21 misses " + w, x.misses(w, 0), Cases.LOST);
         }
-        is("21 misses 3", x.misses(3, 0), LOST);
-        for (int which : NO_WHICH) {
-            is("21 which " + which, x.misses(0, which), LOST);
+        is("21 misses 3", x.misses(3, 0), Cases.LOST);
+        for (int which : Cases.NO_WHICH) {
+            is("21 which " + which, x.misses(0, which), Cases.LOST);
         }
     }
 
     private static void owe() {
-        SharedFault x = with(1200, 10, 10, 20, 0, 30, 30, 20);
+        SharedFault x = Cases.with(1200, 10, 10, 20, 0, 30, 30, 20);
         is("22 all with a weight", x.owe(), 0b111011);
         x.settle(0, 5);
         is("22 but the settled", x.owe(), 0b111010);
@@ -402,11 +407,12 @@ public final class OwedTest {
         x.reopen(0);
         x.settle(0, 1000000);
         is("22 no rest", x.owe(), 0);
+        is("22 little weights", Cases.with(1, 0, 1, 0, 1).owe(), 0b101);
     }
 
     /** Great numbers that share little: here the lower numbers are too great to multiply carelessly. */
     private static void greatest() {
-        SharedFault x = with(1000000, 99, 100, 100, 99, 97, 100, 92);
+        SharedFault x = Cases.with(1000000, 99, 100, 100, 99, 97, 100, 92);
         x.settle(5, 0);
         x.setting(1, 1);
         x.broke(2, true);

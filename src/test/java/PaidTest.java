@@ -1,9 +1,6 @@
 /** Promises 23 to 30: what was paid. */
 public final class PaidTest {
     private static final Check CHECK = new Check("PaidTest");
-    private static final long LOST = Long.MIN_VALUE;
-    private static final int[] STRANGE = {Integer.MIN_VALUE, -9, -1, 6, 7, 31, 32, 33, 64, Integer.MAX_VALUE};
-    private static final int[] NO_WHICH = {Integer.MIN_VALUE, -1, 2, Integer.MAX_VALUE};
 
     public static void main(String[] args) {
         pay();
@@ -13,6 +10,7 @@ public final class PaidTest {
         over();
         transfers();
         manyTransfers();
+        eachAlone();
         noTransfers();
         many();
         CHECK.end();
@@ -22,19 +20,9 @@ public final class PaidTest {
         CHECK.is(call, got, want);
     }
 
-    private static SharedFault with(int loss, int claimant, int... weights) {
-        SharedFault x = new SharedFault();
-        x.loss(loss);
-        x.claimant(claimant);
-        for (int weight : weights) {
-            x.wrong(weight);
-        }
-        return x;
-    }
-
     private static void pay() {
-        SharedFault x = with(1000000, 0, 50, 50, 0);
-        for (int w : STRANGE) {
+        SharedFault x = Cases.with(1000000, 0, 50, 50, 0);
+        for (int w : Cases.STRANGE) {
             is("23 pay " + w, x.pay(w, 0), -1);
         }
         is("23 pay 3", x.pay(3, 1), -1);
@@ -55,7 +43,10 @@ public final class PaidTest {
         is("23 is settled", x.pay(1, 1), -3);
         is("23 what was paid stays", x.ofWrong(0, 5), 1000);
         is("23 nothing changed", x.ofWrong(1, 5), 0);
-        SharedFault pair = with(100, 0, 10, 10, 20);
+        x.weight(2, 50);
+        is("23 the settled one, though much is due", x.pay(1, 1), -3);
+        is("23 much is due", x.pay(2, 1), 6);
+        SharedFault pair = Cases.with(100, 0, 10, 10, 20);
         pair.pair(0, 1);
         pair.broke(0, true);
         is("23 the other of it is broke", pair.pay(1, 100), 100);
@@ -64,20 +55,20 @@ public final class PaidTest {
     }
 
     private static void payToTheFraction() {
-        SharedFault x = with(100, 1, 1, 1);
+        SharedFault x = Cases.with(100, 1, 1, 1);
         CHECK.share("dues", x.amount(4, 0), x.amount(4, 1), 200, 3);
         is("23 67 is more than 200/3", x.pay(0, 67), -3);
         is("23 66 is not", x.pay(0, 66), 66);
         is("23 67 in all", x.pay(1, 1), -3);
-        SharedFault odd = with(200, 0, 1, 1);
+        SharedFault odd = Cases.with(200, 0, 1, 1);
         is("23 all of it", odd.pay(0, 150), 150);
         is("23 all of it", odd.pay(1, 50), 50);
         is("23 more", odd.pay(1, 1), -3);
     }
 
     private static void refund() {
-        SharedFault x = with(1000, 0, 10, 10);
-        for (int w : STRANGE) {
+        SharedFault x = Cases.with(1000, 0, 10, 10);
+        for (int w : Cases.STRANGE) {
             is("24 refund " + w, x.refund(w), -1);
         }
         is("24 nothing", x.refund(0), -3);
@@ -97,7 +88,7 @@ public final class PaidTest {
     }
 
     private static void fair() {
-        SharedFault x = with(1000, 5, 10, 20, 40, 10);
+        SharedFault x = Cases.with(1000, 5, 10, 20, 40, 10);
         fairOf(x, 0, 0, 1);
         x.pay(0, 100);
         x.pay(1, 50);
@@ -117,12 +108,16 @@ public final class PaidTest {
         fairOf(x, 1, 100, 1);
         x.loss(0);
         fairOf(x, 1, 0, 1);
-        for (int w : STRANGE) {
-            is("25 fair " + w, x.fair(w, 0), LOST);
+        SharedFault little = Cases.with(1, 0, 10, 20);
+        little.pay(1, 1);
+        fairOf(little, 0, 1, 3);
+        fairOf(little, 1, 2, 3);
+        for (int w : Cases.STRANGE) {
+            is("25 fair " + w, x.fair(w, 0), Cases.LOST);
         }
-        is("25 fair 4", x.fair(4, 0), LOST);
-        for (int which : NO_WHICH) {
-            is("25 which " + which, x.fair(0, which), LOST);
+        is("25 fair 4", x.fair(4, 0), Cases.LOST);
+        for (int which : Cases.NO_WHICH) {
+            is("25 which " + which, x.fair(0, which), Cases.LOST);
         }
     }
 
@@ -131,7 +126,7 @@ public final class PaidTest {
     }
 
     private static void over() {
-        SharedFault x = with(1000, 5, 10, 20, 40, 10);
+        SharedFault x = Cases.with(1000, 5, 10, 20, 40, 10);
         overOf(x, 0, 0, 1);
         x.pay(0, 100);
         x.pay(1, 50);
@@ -145,12 +140,12 @@ public final class PaidTest {
         overOf(x, 0, 100, 1);
         overOf(x, 1, 50, 1);
         overOf(x, 2, 0, 1);
-        for (int w : STRANGE) {
-            is("26 over " + w, x.over(w, 0), LOST);
+        for (int w : Cases.STRANGE) {
+            is("26 over " + w, x.over(w, 0), Cases.LOST);
         }
-        is("26 over 4", x.over(4, 1), LOST);
-        for (int which : NO_WHICH) {
-            is("26 which " + which, x.over(0, which), LOST);
+        is("26 over 4", x.over(4, 1), Cases.LOST);
+        for (int which : Cases.NO_WHICH) {
+            is("26 which " + which, x.over(0, which), Cases.LOST);
         }
     }
 
@@ -165,13 +160,13 @@ public final class PaidTest {
         for (int k : new int[] {count, count + 1, 6, 7, Integer.MAX_VALUE}) {
             is("28 none " + k, x.transfer(k, 0), -9);
             is("28 none " + k, x.transfer(k, 1), -9);
-            is("29 none " + k, x.given(k, 0), LOST);
-            is("29 none " + k, x.given(k, 1), LOST);
+            is("29 none " + k, x.given(k, 0), Cases.LOST);
+            is("29 none " + k, x.given(k, 1), Cases.LOST);
         }
     }
 
     private static void transfers() {
-        SharedFault x = with(1000, 5, 10, 20, 40, 10);
+        SharedFault x = Cases.with(1000, 5, 10, 20, 40, 10);
         x.pay(0, 100);
         x.pay(1, 50);
         endsAt(x, 3);
@@ -193,18 +188,18 @@ public final class PaidTest {
         endsAt(x, 0);
         is("28 k -1", x.transfer(-1, 0), -2);
         is("28 k least", x.transfer(Integer.MIN_VALUE, 0), -2);
-        for (int which : NO_WHICH) {
+        for (int which : Cases.NO_WHICH) {
             is("28 what comes before none", x.transfer(9, which), -2);
             is("28 what", x.transfer(0, which), -2);
-            is("29 which", x.given(0, which), LOST);
+            is("29 which", x.given(0, which), Cases.LOST);
         }
-        is("29 k -1", x.given(-1, 0), LOST);
-        is("29 k least", x.given(Integer.MIN_VALUE, 1), LOST);
+        is("29 k -1", x.given(-1, 0), Cases.LOST);
+        is("29 k least", x.given(Integer.MIN_VALUE, 1), Cases.LOST);
     }
 
     /** A giver and a taker that are even at once are left out both. */
     private static void manyTransfers() {
-        SharedFault x = with(1000, 0, 10, 10, 10, 10, 10, 10);
+        SharedFault x = Cases.with(1000, 0, 10, 10, 10, 10, 10, 10);
         x.pay(1, 20);
         x.pay(3, 25);
         x.pay(5, 15);
@@ -223,8 +218,43 @@ public final class PaidTest {
         }
     }
 
+    /** Each question on its own: none may lean on an earlier one. */
+    private static void eachAlone() {
+        SharedFault x = Cases.with(1000, 0, 10, 10, 10);
+        x.leave(0);
+        x.pay(1, 1);
+        is("28 first asked", x.transfer(0, 0), 2);
+        x.refund(1);
+        x.pay(2, 3);
+        is("28 asked after a change", x.transfer(0, 1), 2);
+        x.refund(2);
+        is("29 asked after a change", x.given(0, 0), Cases.LOST);
+        x.pay(1, 5);
+        is("29 asked after a change", x.given(0, 0), 5);
+        is("29 asked again", x.given(0, 1), 2);
+        for (int which : Cases.NO_WHICH) {
+            is("28 there is one, but no such what", x.transfer(0, which), -2);
+            is("29 there is one, but no such which", x.given(0, which), Cases.LOST);
+        }
+        is("29 there is one, but not before it", x.given(-1, 0), Cases.LOST);
+        SharedFault fresh = Cases.with(1000, 0, 10, 20);
+        fresh.pay(0, 1);
+        CHECK.share("29 first asked", fresh.given(0, 0), fresh.given(0, 1), 2, 3);
+        // the taker has 1 by 30 too much, the least there can be
+        SharedFault least = Cases.with(1000, 0, 10, 19, 1);
+        least.pay(0, 10);
+        least.pay(1, 19);
+        endsAt(least, 2);
+        transferIs(least, 0, 2, 0, 1, 3);
+        transferIs(least, 1, 2, 1, 19, 30);
+        SharedFault one = Cases.with(1000, 0, 1, 29);
+        one.pay(1, 1);
+        endsAt(one, 1);
+        transferIs(one, 0, 0, 1, 1, 30);
+    }
+
     private static void noTransfers() {
-        SharedFault x = with(1000, 0, 10, 10);
+        SharedFault x = Cases.with(1000, 0, 10, 10);
         endsAt(x, 0);
         x.pay(0, 100);
         endsAt(x, 1);
@@ -239,7 +269,7 @@ public final class PaidTest {
     }
 
     private static void many() {
-        SharedFault x = with(1000, 7, 10, 20, 30, 40, 50, 60);
+        SharedFault x = Cases.with(1000, 7, 10, 20, 30, 40, 50, 60);
         manyAre(x, 6, 6, 0, 0, 217, 0);
         x.pair(4, 1);
         manyAre(x, 6, 5, 0, 0, 217, 0);
