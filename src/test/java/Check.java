@@ -26,6 +26,10 @@ final class Check {
         is(call + " below", down, wantDown);
     }
 
+    int asked() {
+        return asked;
+    }
+
     int wrong() {
         return wrong;
     }
