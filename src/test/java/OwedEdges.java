@@ -183,6 +183,7 @@ final class OwedEdges {
         // by MANNER as it is
         Edge.run("loss 600; wrong 1; wrong 2; wrong 3; settle 2 100; setting 1 2; misses 1 = 1000/3; setting 0 1; misses 1 = 200/1; "
                 + "setting 0 2; misses 1 = 200/1");
+        Edge.run("loss 600; wrong 1; wrong 2; wrong 3; settle 2 100; setting 1 2; broke 0 1; misses 1 = 1000/3; setting 0 1; misses 1 = 200/1");
         greatestMisses();
         Edge.promise(21, "LOST: UNKNOWN;");
         Edge.unknown("misses # 0", "LOST");
@@ -192,14 +193,11 @@ final class OwedEdges {
         noWhich(MIXED, "misses 3");
     }
 
-    /** The greatest lower number that any share gets comes of two spreads over numbers that share no divisor. */
+    /** The greatest lower number found for any share: both parts' lower numbers are too great to be multiplied. */
     private static void greatestMisses() {
-        Fraction rest = Fraction.of(999983).times(593).by(692);
-        Fraction partBroke = rest.times(97).by(593).times(99).by(496 + 99);
-        Fraction partBrokeMore = rest.times(97 + 100).by(593).times(99).by(396 + 99);
-        Fraction misses = partBrokeMore.minus(partBroke);
-        Edge.run("loss 999983; claimant 99; wrong 100; wrong 97; wrong 99; wrong 98; wrong 99; wrong 100; setting 1 1; broke 1 1; "
-                + "amount 2 = " + rest.told(0) + "/" + rest.told(1) + "; misses 0 = " + misses.told(0) + "/" + misses.told(1));
+        Edge.run("loss 999983; claimant 99; wrong 97; wrong 99; wrong 93; wrong 100; wrong 100; wrong 98; settle 0 0; setting 1 1; "
+                + "broke 1 1; amount 3 = 5753089195821/164708600; misses 2 = 3183201685651383/65389314200; broke 2 1; "
+                + "amount 3 = 2789376579792/33361895");
     }
 
     private static void owe() {

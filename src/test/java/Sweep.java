@@ -1,3 +1,4 @@
+import java.util.Arrays;
 import java.util.List;
 
 /**
@@ -105,7 +106,7 @@ final class Sweep {
         SharedFault x = made();
         long got = Script.call(x, name, arguments);
         long want = Script.call(modelled(), name, arguments);
-        String call = name + java.util.Arrays.toString(arguments) + " after " + about;
+        String call = name + Arrays.toString(arguments) + " after " + about;
         check.is(call, got, want);
         if (!changes || want < 0) {
             String differs = Told.by(x).differsFrom(untouched);

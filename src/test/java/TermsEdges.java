@@ -56,15 +56,9 @@ final class TermsEdges {
             dearest.run("bestManner = 0");
         }
         dearest.run("transfers = 3");
-        CheckCalls.all(pays, comings, settlings, dearest);
-    }
-
-    /** Only such runs tell something of the 512th call that go just so far. */
-    private static final class CheckCalls {
-        static void all(Script... scripts) {
-            for (Script script : scripts) {
-                Edge.CHECK.is("calls of the run", script.calls(), 512);
-            }
+        // only runs that go just so far tell something of the 512th call
+        for (Script script : new Script[] {pays, comings, settlings, dearest}) {
+            Edge.CHECK.is("calls of the run", script.calls(), 512);
         }
     }
 
