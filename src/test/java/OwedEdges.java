@@ -116,6 +116,9 @@ final class OwedEdges {
         // by less than a whole
         Edge.run("loss 1000; wrong 1; wrong 2; settle 0 334; gets 0 0 = 1000/1; gets 1 0 = 3002/3; bestManner = 1");
         Edge.run("loss 1000; wrong 1; wrong 2; settle 0 333; gets 0 0 = 1000/1; gets 1 0 = 2999/3; bestManner = 0");
+        // one settled for less than its part, one for more: each manner gives another amount
+        Edge.run("loss 900; wrong 1; wrong 1; wrong 1; settle 0 100; settle 1 400; gets 0 0 = 900/1; gets 1 0 = 800/1; gets 2 0 = 700/1; "
+                + "bestManner = 0; reopen 0; settle 0 250; gets 0 0 = 900/1; gets 1 0 = 950/1; gets 2 0 = 850/1; bestManner = 1");
         // by the spread: what is missed anyway makes no difference
         Edge.run("loss 1000; wrong 1; wrong 1; wrong 0; settle 0 501; bestManner = 1; broke 1 1; bestManner = 0; setting 1 1; "
                 + "bestManner = 0; setting 1 2; bestManner = 0; weight 2 1; bestManner = 1; setting 1 0; bestManner = 1");
