@@ -19,6 +19,10 @@ final class Edge {
         SENTENCES.quote("Promise " + number, words);
     }
 
+    static void whatItIs(String words) {
+        SENTENCES.quote("What it is", words);
+    }
+
     static void terms(String words) {
         SENTENCES.quote("Terms", words);
     }

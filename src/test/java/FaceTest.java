@@ -27,6 +27,7 @@ public final class FaceTest {
 
     public static void main(String[] args) throws Exception {
         constants();
+        document();
         face();
         insideClasses();
         text();
@@ -40,6 +41,28 @@ public final class FaceTest {
         CHECK.is("FULL", SharedFault.FULL, -4);
         CHECK.is("NONE", SharedFault.NONE, -9);
         CHECK.is("LOST", SharedFault.LOST, Long.MIN_VALUE);
+    }
+
+    /** The lists in this test are those of the document, so that neither strays from the other. */
+    private static void document() throws Exception {
+        Path path = Path.of("../shared/DOC.md");
+        if (!Files.isReadable(path)) {
+            System.out.println("no document at " + path + ": the face is not looked up");
+            return;
+        }
+        String face = Files.readString(path).replaceAll("(?s).*## The public face(.*?)## Terms.*", "$1");
+        Set<String> told = new TreeSet<>();
+        Matcher method = Pattern.compile("public (\\w+ \\w+)\\((.*)\\);").matcher(face);
+        while (method.find()) {
+            told.add(method.group(1) + "(" + method.group(2).replaceAll("(\\w+) \\w+", "$1").replace(", ", ",") + ")");
+        }
+        CHECK.holds("the document's methods are " + told, told.equals(new TreeSet<>(Set.of(FACE))));
+        CHECK.holds("the document's class", face.contains("public final class SharedFault {"));
+        CHECK.holds("the document's constructor", face.contains("    public SharedFault();\n"));
+        CHECK.holds("the document's constants of int",
+                face.contains("public static final int UNKNOWN = -1, OUTSIDE = -2, STATE = -3, FULL = -4, NONE = -9;"));
+        CHECK.holds("the document's constant of long", face.contains("public static final long LOST = Long.MIN_VALUE;"));
+        CHECK.is("constants", face.split("public static final").length - 1, 2);
     }
 
     private static String signature(Method method) {
@@ -93,9 +116,26 @@ public final class FaceTest {
         CHECK.holds("at most twelve classes", inside.length <= 11);
         for (Class<?> type : inside) {
             CHECK.holds(type + " is static", Modifier.isStatic(type.getModifiers()));
+            CHECK.holds(type + " is not public", !Modifier.isPublic(type.getModifiers()) && !Modifier.isProtected(type.getModifiers()));
             for (Field field : type.getDeclaredFields()) {
                 finalIfStatic(field);
             }
+            sizes(type);
+        }
+        sizes(SharedFault.class);
+    }
+
+    private static void sizes(Class<?> type) {
+        int fields = 0;
+        for (Field field : type.getDeclaredFields()) {
+            fields += Modifier.isStatic(field.getModifiers()) ? 0 : 1;
+        }
+        CHECK.holds(type + " has at most twenty fields", fields <= 20);
+        for (Method method : type.getDeclaredMethods()) {
+            CHECK.holds(method + " takes at most seven", method.getParameterCount() <= 7);
+        }
+        for (Constructor<?> made : type.getDeclaredConstructors()) {
+            CHECK.holds(made + " takes at most seven", made.getParameterCount() <= 7);
         }
     }
 

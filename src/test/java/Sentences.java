@@ -64,11 +64,16 @@ final class Sentences {
         return quoted;
     }
 
-    /** Every word of the terms and of the promises has been quoted. */
+    /** What the document says of the class has tests here; its face has them in FaceTest. */
+    private static boolean isTested(String section) {
+        return section.equals("What it is") || section.equals("Terms") || section.startsWith("Promise ");
+    }
+
+    /** Every word of these sections has been quoted. */
     void end() {
         askedUnderLast();
         for (Map.Entry<String, StringBuilder> section : untested.entrySet()) {
-            if (section.getKey().startsWith("Promise ") || section.getKey().equals("Terms")) {
+            if (isTested(section.getKey())) {
                 String left = section.getValue().toString().replaceAll("[^A-Za-z0-9]+", " ").trim();
                 check.holds(section.getKey() + " has words without a test: " + left, left.isEmpty());
             }

@@ -10,6 +10,7 @@ final class TermsEdges {
     private TermsEdges() { }
 
     static void run() {
+        summary();
         calls512();
         laterCalls();
         firstRefusal();
@@ -36,8 +37,33 @@ final class TermsEdges {
 
     // ---- What it is
 
+    private static void summary() {
+        String four = "loss 12000; claimant 20; wrong 30; wrong 20; wrong 20; wrong 10; ";
+        Edge.whatItIs("A court that shares out fault: a loss, one who claims and may be to blame, too, several who did wrong,");
+        Edge.run(four + "amount 0 = 9600/1; due 0 = 3600/1; due 1 = 2400/1; due 2 = 2400/1; due 3 = 1200/1; claimant 0; amount 0 = 12000/1");
+        Edge.whatItIs("some of them master and servant, who count as one;");
+        Edge.run(four + "pair 0 1; many 1 = 3; unitDue 0 = 6000/1; unitDue 1 = 6000/1; settle 0 9; ofWrong 1 3 = 1; ofWrong 1 4 = 9");
+        Edge.whatItIs("some settle early, and what that takes off the claim, in three manners;");
+        Edge.run(four + "settle 3 600; amount 2 = 9000/1; setting 0 1; amount 2 = 8400/1; setting 0 2; amount 2 = 8400/1; "
+                + "reopen 3; settle 3 1500; amount 2 = 8100/1; setting 0 1; amount 2 = 8400/1; setting 0 0; amount 2 = 8100/1");
+        Edge.whatItIs("some are broke, and on whom their parts come, in three manners;");
+        Edge.run(four + "broke 2 1; due 0 = 4800/1; amount 3 = 0/1; setting 1 1; due 0 = 4500/1; amount 3 = 600/1; setting 1 2; "
+                + "due 0 = 3600/1; amount 3 = 2400/1");
+        String paid = four + "pair 0 1; settle 3 600; pay 0 6000; pay 2 1000; ";
+        Edge.whatItIs("what each one owes at last, to the coin's fraction;");
+        Edge.run(paid + "due 0 = 27000/7; due 1 = 18000/7; due 2 = 18000/7; due 3 = 0/1");
+        Edge.whatItIs("what was paid, and by whom too much;");
+        Edge.run(paid + "many 5 = 7000; over 0 = 3000/1; over 1 = -2000/1; over 2 = -1000/1; over 3 = 0/1");
+        Edge.whatItIs("who gives whom how much, so that each has borne what is fair;");
+        Edge.run(paid + "transfers = 2; transfer 0 0 = 1; transfer 0 1 = 0; given 0 = 2000/1; transfer 1 0 = 2; transfer 1 1 = 0; "
+                + "given 1 = 1000/1; fair 0 = 3000/1; fair 1 = 2000/1; fair 2 = 2000/1; fair 3 = 0/1");
+        Edge.whatItIs("what another manner, a settlement, one more who is broke would make of it.");
+        Edge.run(paid + "gets 0 0 = 9600/1; gets 1 0 = 9000/1; bestManner = 0; saves 2 2000 = 4000/7; misses 2 = 0/1; setting 1 2; "
+                + "misses 2 = 18000/7");
+    }
+
     private static void calls512() {
-        Edge.SENTENCES.quote("What it is", "An object is used for at most 512 calls after it has been made;");
+        Edge.whatItIs("An object is used for at most 512 calls after it has been made;");
         Script pays = Edge.run("loss 1000000; wrong 1");
         for (int call = 3; call <= 512; call++) {
             pays.run("pay 0 1 = " + (call - 2));
@@ -63,7 +89,7 @@ final class TermsEdges {
     }
 
     private static void laterCalls() {
-        Edge.SENTENCES.quote("What it is", "what later calls answer is free.");
+        Edge.whatItIs("what later calls answer is free.");
         SharedFault x = Edge.run("loss 1000; " + Edge.SIX + "pair 0 1; settle 2 5; broke 3 1; pay 4 7").object();
         for (int round = 0; round < 3; round++) {
             Told.by(x);
